@@ -47,6 +47,7 @@ public final class HotIron {
     private static final int WELD = 4;
     private static final int GO = 5;
 
+    private static final int NO_PART = 0;
     private static final int CELLS_PART = -1;
     private static final int LEFT_PART = -2;
     private static final int HEATS_PART = -3;
@@ -226,7 +227,9 @@ public final class HotIron {
         if (i < 0 || i >= MOST_HEATS || cell < NONE || cell >= now.cells) {
             return NONE;
         }
-        return planner().planned(now, i, cell);
+        Planner p = planner();
+        p.layPlan(now);
+        return p.planned(i, cell);
     }
 
     public int reached(int heats) {
@@ -518,12 +521,29 @@ public final class HotIron {
         }
     }
 
-    /** Reads a TEXT, token by token, up to its FAULT. */
+    /** Reads a TEXT: first its tokens, then what they say, up to its FAULT. */
     private static final class Reader {
         static final int MOST_CODE = TAPE_BYTES + MOST_STEPS;
         private static final int MOST_PARTS = 60;
         private static final int MOST_BRACKETS = 8;
         private static final int MOST_NUMBER = 99;
+
+        /** Tokens: a number is its value, a STEP's word lies below STEP_WORD by its kind, a sign below SIGN by its byte. */
+        private static final int END = -1;
+        private static final int UNKNOWN_WORD = -2;
+        private static final int TO_WORD = -3;
+        private static final int IF_WORD = -4;
+        private static final int OR_WORD = -5;
+        private static final int AND_WORD = -6;
+        private static final int NOT_WORD = -7;
+        private static final int STEP_WORD = -20;
+        private static final int PART_WORD = -40;
+        private static final int SIGN = -100;
+        private static final int BLANK = SIGN - ' ';
+
+        private static final int LETTER = 0;
+        private static final int DIGIT = 1;
+        private static final int OTHER = 2;
 
         final int[] code = new int[MOST_CODE];
         int codeLength = 0;
@@ -531,48 +551,138 @@ public final class HotIron {
         final int[] kind = new int[MOST_STEPS];
         int length = 0;
         int fault = NONE;
-        private byte[] text = null;
-        private int textLength = 0;
-        private int tokenFrom = 0;
-        private int tokenTo = 0;
+        private final int[] token = new int[TAPE_BYTES + 1];
+        private final int[] place = new int[TAPE_BYTES + 1];
+        private int at = 0;
         private int parts = 0;
         private int brackets = 0;
 
-        boolean understands(byte[] bytes, int many) {
-            text = bytes;
-            textLength = bytes == null ? 0 : Math.max(0, Math.min(bytes.length, many));
+        boolean understands(byte[] text, int textLength) {
             codeLength = 0;
             length = 0;
             fault = NONE;
+            at = 0;
             parts = 0;
             brackets = 0;
-            tokenTo = 0;
-            nextToken();
-            readSteps();
-            return fault == NONE;
-        }
-
-        private void readSteps() {
-            for (int i = 0; i < MOST_STEPS; i++) {
+            splitTokens(text, Math.max(0, Math.min(TAPE_BYTES, Math.min(text.length, textLength))));
+            for (int i = 0; i < MOST_STEPS && fault == NONE; i++) {
                 readStep(i);
-                if (fault != NONE || tokenFrom >= textLength) {
-                    return;
+                if (sees(END)) {
+                    return true;
                 }
-                take(";");
+                take(SIGN - ';');
             }
             fail();
+            return false;
+        }
+
+        private void splitTokens(byte[] text, int textLength) {
+            int many = 0;
+            int from = 0;
+            while (from < textLength && many < TAPE_BYTES) {
+                int sort = sortOf(text[from]);
+                int to = from + 1;
+                while (sort != OTHER && to < textLength && sortOf(text[to]) == sort) {
+                    to++;
+                }
+                int read = sort == LETTER ? wordIn(text, from, to)
+                        : sort == DIGIT ? numberIn(text, from, to) : SIGN - (text[from] & 255);
+                if (read != BLANK) {
+                    token[many] = read;
+                    place[many] = from;
+                    many++;
+                }
+                from = to;
+            }
+            token[many] = END;
+            place[many] = textLength;
+        }
+
+        private static int sortOf(int sign) {
+            if (sign >= 'a' && sign <= 'z') {
+                return LETTER;
+            }
+            return sign >= '0' && sign <= '9' ? DIGIT : OTHER;
+        }
+
+        private static int numberIn(byte[] text, int from, int to) {
+            int number = 0;
+            for (int i = from; i < to && i >= 0 && i < text.length; i++) {
+                // Held down, since a row of digits may be longer than an int.
+                number = Math.min(1000, number * 10 + text[i] - '0');
+            }
+            return number;
+        }
+
+        private static int wordIn(byte[] text, int from, int to) {
+            if (isWord("to", text, from, to)) {
+                return TO_WORD;
+            } else if (isWord("if", text, from, to)) {
+                return IF_WORD;
+            } else if (isWord("or", text, from, to)) {
+                return OR_WORD;
+            } else if (isWord("and", text, from, to)) {
+                return AND_WORD;
+            } else if (isWord("not", text, from, to)) {
+                return NOT_WORD;
+            }
+            int part = partIn(text, from, to);
+            if (part != NO_PART) {
+                return PART_WORD + part;
+            }
+            int step = stepIn(text, from, to);
+            return step == NONE ? UNKNOWN_WORD : STEP_WORD - step;
+        }
+
+        private static int partIn(byte[] text, int from, int to) {
+            if (isWord("iron", text, from, to)) {
+                return IRON_PART;
+            } else if (isWord("hot", text, from, to)) {
+                return HOT_PART;
+            } else if (isWord("cells", text, from, to)) {
+                return CELLS_PART;
+            } else if (isWord("left", text, from, to)) {
+                return LEFT_PART;
+            } else if (isWord("heats", text, from, to)) {
+                return HEATS_PART;
+            }
+            return isWord("struck", text, from, to) ? STRUCK_PART : NO_PART;
+        }
+
+        private static int stepIn(byte[] text, int from, int to) {
+            if (isWord("fire", text, from, to)) {
+                return FIRE;
+            } else if (isWord("strike", text, from, to)) {
+                return STRIKE;
+            } else if (isWord("shoulder", text, from, to)) {
+                return SHOULDER;
+            } else if (isWord("punch", text, from, to)) {
+                return PUNCH;
+            } else if (isWord("weld", text, from, to)) {
+                return WELD;
+            }
+            return isWord("go", text, from, to) ? GO : NONE;
+        }
+
+        private static boolean isWord(String word, byte[] text, int from, int to) {
+            if (to - from != word.length() || from < 0 || to > text.length) {
+                return false;
+            }
+            for (int i = 0; i < word.length(); i++) {
+                if (text[from + i] != word.charAt(i)) {
+                    return false;
+                }
+            }
+            return true;
         }
 
         private void readStep(int i) {
-            if (i < 0 || i >= MOST_STEPS) {
-                return;
-            }
-            int which = kindTold();
-            if (which == NONE) {
+            int which = STEP_WORD - now();
+            if (which < FIRE || which > GO || i < 0 || i >= MOST_STEPS) {
                 fail();
                 return;
             }
-            nextToken();
+            at++;
             kind[i] = which;
             start[i] = codeLength;
             if (which == GO) {
@@ -581,11 +691,11 @@ public final class HotIron {
                 readSum();
             }
             if (which == STRIKE) {
-                take("to");
+                take(TO_WORD);
                 readSum();
             }
-            if (sees("if")) {
-                take("if");
+            if (sees(IF_WORD)) {
+                at++;
                 readTest();
             } else {
                 emit(1);
@@ -594,150 +704,127 @@ public final class HotIron {
             length = i + 1;
         }
 
-        private int kindTold() {
-            if (sees("fire")) {
-                return FIRE;
-            } else if (sees("strike")) {
-                return STRIKE;
-            } else if (sees("shoulder")) {
-                return SHOULDER;
-            } else if (sees("punch")) {
-                return PUNCH;
-            } else if (sees("weld")) {
-                return WELD;
-            }
-            return sees("go") ? GO : NONE;
-        }
-
+        /** PLAINS joined by "and", and these by "or". */
         private void readTest() {
-            readBoth();
-            for (int i = 0; i < TAPE_BYTES && sees("or"); i++) {
-                take("or");
-                readBoth();
-                emit(OR);
-            }
-        }
-
-        private void readBoth() {
-            readPlain();
-            for (int i = 0; i < TAPE_BYTES && sees("and"); i++) {
-                take("and");
+            boolean more = true;
+            for (int i = 0; i < TAPE_BYTES && more; i++) {
                 readPlain();
-                emit(AND);
+                for (int k = 0; k < TAPE_BYTES && sees(AND_WORD); k++) {
+                    at++;
+                    readPlain();
+                    emit(AND);
+                }
+                if (i > 0) {
+                    emit(OR);
+                }
+                more = sees(OR_WORD);
+                at += more ? 1 : 0;
             }
         }
 
         private void readPlain() {
             // A loop, not a call of itself: a TEXT may have a hundred "not" one behind the other.
             boolean not = false;
-            for (int i = 0; i < TAPE_BYTES && sees("not"); i++) {
-                take("not");
+            for (int i = 0; i < TAPE_BYTES && sees(NOT_WORD); i++) {
+                at++;
                 not = !not;
             }
-            if (sees("(")) {
-                open("(");
-                if (fault == NONE) {
+            if (sees(SIGN - '(')) {
+                if (enters('(')) {
                     readTest();
+                    brackets--;
+                    take(SIGN - ')');
                 }
-                close(")");
             } else {
-                readComparison();
+                readSum();
+                int sign = sees(SIGN - '<') ? LESS : sees(SIGN - '>') ? MORE : SAME;
+                take(sign == LESS ? SIGN - '<' : sign == MORE ? SIGN - '>' : SIGN - '=');
+                readSum();
+                emit(sign);
             }
             if (not) {
                 emit(NOT);
             }
         }
 
-        private void readComparison() {
-            readSum();
-            int sign = sees("<") ? LESS : sees(">") ? MORE : SAME;
-            take(sign == LESS ? "<" : sign == MORE ? ">" : "=");
-            readSum();
-            emit(sign);
-        }
-
         private void readSum() {
             readPart();
-            for (int i = 0; i < TAPE_BYTES && (sees("+") || sees("-")); i++) {
-                int sign = sees("+") ? PLUS : MINUS;
-                nextToken();
+            for (int i = 0; i < TAPE_BYTES && (sees(SIGN - '+') || sees(SIGN - '-')); i++) {
+                int sign = sees(SIGN - '+') ? PLUS : MINUS;
+                at++;
                 readPart();
                 emit(sign);
             }
         }
 
         private void readPart() {
+            if (parts >= MOST_PARTS) {
+                fail();
+            }
             if (fault != NONE) {
                 return;
             }
-            if (parts >= MOST_PARTS) {
-                fail();
-                return;
-            }
             parts++;
-            if (sees("[")) {
-                readBracketed("[", "]");
-            } else if (sees("iron") || sees("hot")) {
-                int which = sees("iron") ? IRON_PART : HOT_PART;
-                nextToken();
-                readBracketed("(", ")");
-                emit(which);
-            } else if (plainPart() != 0) {
-                emit(plainPart());
-                nextToken();
+            int part = now() - PART_WORD;
+            if (sees(SIGN - '[')) {
+                if (enters('[')) {
+                    readSum();
+                    brackets--;
+                    take(SIGN - ']');
+                }
+            } else if (part == IRON_PART || part == HOT_PART) {
+                at++;
+                if (enters('(')) {
+                    readSum();
+                    brackets--;
+                    take(SIGN - ')');
+                    emit(part);
+                }
+            } else if (part <= CELLS_PART && part >= STRUCK_PART) {
+                at++;
+                emit(part);
             } else {
                 readNumber(MOST_NUMBER);
             }
         }
 
-        private int plainPart() {
-            if (sees("cells")) {
-                return CELLS_PART;
-            } else if (sees("left")) {
-                return LEFT_PART;
-            } else if (sees("heats")) {
-                return HEATS_PART;
-            }
-            return sees("struck") ? STRUCK_PART : 0;
-        }
-
-        private void readBracketed(String first, String last) {
-            open(first);
-            if (fault == NONE) {
-                readSum();
-            }
-            close(last);
-        }
-
-        private void open(String sign) {
-            if (brackets >= MOST_BRACKETS) {
-                fail();
-            }
-            take(sign);
-            brackets++;
-        }
-
-        private void close(String sign) {
-            take(sign);
-            brackets--;
-        }
-
+        /** Like the ones below it calls no other, so that calls do not go too deep. */
         private void readNumber(int most) {
-            if (fault != NONE || !isDigit(tokenFrom)) {
-                fail();
+            if (fault != NONE || at < 0 || at >= token.length) {
                 return;
             }
-            int number = 0;
-            for (int i = tokenFrom; i < tokenTo; i++) {
-                // Held down, since a row of digits may be longer than an int.
-                number = Math.min(1000, number * 10 + byteAt(i) - '0');
-            }
-            if (number > most) {
-                fail();
+            if (token[at] < 0 || token[at] > most || codeLength >= MOST_CODE) {
+                fault = place[at];
                 return;
             }
-            emit(number);
-            nextToken();
+            code[codeLength] = token[at];
+            codeLength++;
+            at++;
+        }
+
+        /** Whether that bracket stands here and may be one more within the others. */
+        private boolean enters(int sign) {
+            if (fault != NONE || at < 0 || at >= token.length) {
+                return false;
+            }
+            if (token[at] != SIGN - sign || brackets >= MOST_BRACKETS) {
+                fault = place[at];
+                return false;
+            }
+            brackets++;
+            at++;
+            return true;
+        }
+
+        private void take(int what) {
+            if (fault != NONE || at < 0 || at >= token.length) {
+                return;
+            }
+            if (token[at] == what) {
+                at++;
+            } else {
+                fault = place[at];
+            }
         }
 
         private void emit(int what) {
@@ -748,62 +835,18 @@ public final class HotIron {
         }
 
         private void fail() {
-            if (fault == NONE) {
-                fault = tokenFrom;
+            if (fault == NONE && at >= 0 && at < place.length) {
+                fault = place[at];
             }
         }
 
-        private void take(String word) {
-            if (sees(word)) {
-                nextToken();
-            } else {
-                fail();
-            }
+        /** Behind a FAULT no token is seen, so that reading comes to its end. */
+        private boolean sees(int what) {
+            return fault == NONE && at >= 0 && at < token.length && token[at] == what;
         }
 
-        /** Whether the token is that word; behind a FAULT none is, so that reading comes to its end. */
-        private boolean sees(String word) {
-            if (fault != NONE || tokenTo - tokenFrom != word.length()) {
-                return false;
-            }
-            for (int i = 0; i < word.length(); i++) {
-                if (byteAt(tokenFrom + i) != word.charAt(i)) {
-                    return false;
-                }
-            }
-            return true;
-        }
-
-        private void nextToken() {
-            int at = tokenTo;
-            while (at < textLength && byteAt(at) == ' ') {
-                at++;
-            }
-            tokenFrom = at;
-            if (isLetter(at)) {
-                while (at < textLength && isLetter(at)) {
-                    at++;
-                }
-            } else if (isDigit(at)) {
-                while (at < textLength && isDigit(at)) {
-                    at++;
-                }
-            } else if (at < textLength) {
-                at++;
-            }
-            tokenTo = at;
-        }
-
-        private boolean isLetter(int at) {
-            return byteAt(at) >= 'a' && byteAt(at) <= 'z';
-        }
-
-        private boolean isDigit(int at) {
-            return byteAt(at) >= '0' && byteAt(at) <= '9';
-        }
-
-        private int byteAt(int at) {
-            return text == null || at < 0 || at >= textLength || at >= text.length ? NONE : text[at] & 255;
+        private int now() {
+            return fault == NONE && at >= 0 && at < token.length ? token[at] : END;
         }
     }
 
@@ -1269,25 +1312,17 @@ public final class HotIron {
         }
 
         private void heat(long[] from, int at, long[] to) {
-            Arrays.fill(to, 0L);
             for (int w = 0; w < words; w++) {
-                long rows = from[w] & heatable[at][w];
-                if (rows != 0) {
-                    to[w] |= rows & ~giving[at][w];
-                    put(rows & giving[at][w], w, -weight[at], to);
-                }
+                to[w] = from[w] & heatable[at][w] & ~giving[at][w];
             }
+            shift(from, heatable[at], giving[at], -weight[at], to);
         }
 
         private void unheat(long[] from, int at, long[] to) {
-            Arrays.fill(to, 0L);
             for (int w = 0; w < words; w++) {
-                long rows = from[w];
-                if (rows != 0) {
-                    to[w] |= rows & ~giving[at][w];
-                    put(rows & taking[at][w], w, weight[at], to);
-                }
+                to[w] = from[w] & ~giving[at][w];
             }
+            shift(from, taking[at], taking[at], weight[at], to);
             keepCommon(to, heatable[at]);
         }
 
@@ -1298,8 +1333,9 @@ public final class HotIron {
             for (int b = 0; b < blows && fresh; b++) {
                 Arrays.fill(next, 0L);
                 for (int cell = Math.max(0, at - 2); cell <= at + 1 && cell + 1 < cells; cell++) {
-                    moveAll(cell, cell + 1);
-                    moveAll(cell + 1, cell);
+                    int by = weight[cell] - weight[cell + 1];
+                    shift(front, giving[cell], taking[cell + 1], -by, next);
+                    shift(front, giving[cell + 1], taking[cell], by, next);
                 }
                 long any = 0;
                 for (int w = 0; w < words; w++) {
@@ -1312,31 +1348,22 @@ public final class HotIron {
             }
         }
 
-        /** One MOVE in each row of the front in which it can be. */
-        private void moveAll(int from, int to) {
-            long[] gives = giving[from];
-            long[] takes = taking[to];
-            int by = weight[to] - weight[from];
-            for (int w = 0; w < words; w++) {
-                long rows = front[w];
+        /** Adds to a set the rows that are in all of three others, their numbers higher by so much. */
+        private static void shift(long[] from, long[] one, long[] other, int by, long[] to) {
+            int wordsBy = by >> 6;
+            int up = by & 63;
+            for (int w = 0; w < from.length && w < one.length && w < other.length; w++) {
+                long rows = from[w];
                 if (rows != 0) {
-                    rows &= gives[w] & takes[w];
-                    if (rows != 0) {
-                        put(rows, w, by, next);
+                    rows &= one[w] & other[w];
+                    int t = w + wordsBy;
+                    if (t >= 0 && t < to.length) {
+                        to[t] |= rows << up;
+                    }
+                    if (up != 0 && t + 1 >= 0 && t + 1 < to.length) {
+                        to[t + 1] |= rows >>> 64 - up;
                     }
                 }
-            }
-        }
-
-        /** Adds rows of one word to a set, their numbers higher by so much. */
-        private static void put(long rows, int word, int by, long[] to) {
-            int w = word + (by >> 6);
-            int shift = by & 63;
-            if (w >= 0 && w < to.length) {
-                to[w] |= rows << shift;
-            }
-            if (shift != 0 && w + 1 >= 0 && w + 1 < to.length) {
-                to[w + 1] |= rows >>> 64 - shift;
             }
         }
 
@@ -1449,8 +1476,7 @@ public final class HotIron {
             return fewest(ahead, behind, smithy.ironOf(smithy.bar) - smithy.ironOf(smithy.shape));
         }
 
-        int planned(Smithy smithy, int i, int cell) {
-            layPlan(smithy);
+        int planned(int i, int cell) {
             if (i < 0 || i >= planHeats || i >= MOST_HEATS) {
                 return NONE;
             }
@@ -1480,14 +1506,16 @@ public final class HotIron {
         }
 
         int savedByBlow(Smithy smithy) {
-            int many = fewestHeats(smithy);
+            int lost = smithy.ironOf(smithy.bar) - smithy.ironOf(smithy.shape);
+            aimAt(smithy);
+            int many = fewest(ahead, behind, lost);
             if (many == NONE) {
                 return NONE;
             }
             int blows = smithy.term[BLOWS_TERM] + 1;
             otherAhead.aim(forge.numberOf(smithy.bar), smithy.held, blows);
             otherBehind.aim(forge.numberOf(smithy.shape), smithy.held, blows);
-            int fewer = fewest(otherAhead, otherBehind, smithy.ironOf(smithy.bar) - smithy.ironOf(smithy.shape));
+            int fewer = fewest(otherAhead, otherBehind, lost);
             return fewer == NONE ? NONE : many - fewer;
         }
 
@@ -1514,7 +1542,8 @@ public final class HotIron {
             return NONE;
         }
 
-        private void layPlan(Smithy smithy) {
+        /** The PLAN is found once for what stands, since it is asked for bit by bit. */
+        void layPlan(Smithy smithy) {
             int bar = forge.numberOf(smithy.bar);
             int shape = forge.numberOf(smithy.shape);
             int blows = smithy.term[BLOWS_TERM];
@@ -1523,7 +1552,8 @@ public final class HotIron {
                 return;
             }
             planKey = key;
-            planHeats = fewestHeats(smithy);
+            aimAt(smithy);
+            planHeats = fewest(ahead, behind, smithy.ironOf(smithy.bar) - smithy.ironOf(smithy.shape));
             if (planHeats > 0) {
                 chooseCells(bar, blows);
                 trimPath(blows);

@@ -13,6 +13,7 @@ public final class HotIron {
 
     private static final int FEWEST_CELLS = 3;
     private static final int MOST_CELLS = 5;
+    private static final int FIRST_CELLS = 4;
     private static final int MOST_IRON = 9;
     private static final int FIRST_IRON = 3;
     private static final int[] ALL_TWO = {2, 2, 2, 2, 2};
@@ -445,9 +446,9 @@ public final class HotIron {
 
     /** All that IMAGES keep. */
     private static final class Smithy {
-        int cells;
-        final int[] bar = new int[MOST_CELLS];
-        final int[] shape = new int[MOST_CELLS];
+        int cells = FIRST_CELLS;
+        final int[] bar = {FIRST_IRON, FIRST_IRON, FIRST_IRON, FIRST_IRON, FIRST_IRON};
+        final int[] shape = {FIRST_IRON, FIRST_IRON, FIRST_IRON, FIRST_IRON, FIRST_IRON};
         int held = ALL_NUMBERS;
         final int[] term = {3, 3, 5, 1, 20};
         final Recipe[] recipes = new Recipe[MOST_RECIPES];
@@ -455,10 +456,6 @@ public final class HotIron {
         final int[] minutes = new int[MOST_PIECES];
         final int[] need = new int[MOST_PIECES];
         int pieceCount = 0;
-
-        Smithy() {
-            widen(4);
-        }
 
         void widen(int n) {
             cells = n;

@@ -112,6 +112,12 @@ public final class TapeTest {
         fault("fire 1 fire 2", 7);
         fault("fires 1", 0);
         fault("FIRE 1", 0);
+        fault("firez 1", 0);
+        fault("fire`1", 4);
+        fault("fire{1", 4);
+        fault("fire /", 5);
+        fault("fire :", 5);
+        fault("fire 1 if 1=09 zz", 15);
         fault("fire +1", 5);
         fault("fire 1+", 7);
         fault("fire 1*2", 6);

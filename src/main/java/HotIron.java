@@ -89,6 +89,7 @@ public final class HotIron {
     private boolean ran = false;
     private final Run trial = new Run();
     private final Run model = new Run();
+    private final int[] twelveIron = new int[MADE_ALIKE * MOST_CELLS];
     private final Planner[] planners = new Planner[MOST_CELLS + 1];
     private final Gate gate = new Gate();
     private final int[] refusals = new int[5];
@@ -167,12 +168,12 @@ public final class HotIron {
     }
 
     public int recipe() {
+        int length = tapeLength;
+        tapeLength = 0;
         int number = now.recipeCount;
         if (number >= MOST_RECIPES) {
             return refuse(NO_ROOM);
         }
-        int length = tapeLength;
-        tapeLength = 0;
         if (!reader.understands(tape, length)) {
             return refuse(BAD_TEXT);
         }
@@ -275,18 +276,23 @@ public final class HotIron {
         if (r == null || slip < 0 || slip > MOST_SLIP || seed < 0 || seed > MOST_SEED || what < 0 || what > 2) {
             return NONE;
         }
+        makeTwelve(r, slip, seed);
         if (what == 1) {
-            return widestApart(r, slip, seed);
+            return widestApart();
         }
-        return alike(r, slip, seed, what == 0);
+        if (what == 0) {
+            return manyAs(twelveIron);
+        }
+        trial.carryOut(now, r, NONE);
+        return manyAs(trial.iron);
     }
 
     public int piece(int minutes, int need) {
-        if (minutes < 1 || minutes > MOST_MINUTES || need < NONE) {
+        if (minutes < 1 || minutes > MOST_MINUTES) {
             return refuse(BAD_NUMBER);
         }
         int number = now.pieceCount;
-        if (need >= number) {
+        if (need < NONE || need >= number) {
             return refuse(NOT_THERE);
         }
         if (number >= MOST_PIECES) {
@@ -407,41 +413,45 @@ public final class HotIron {
         return p;
     }
 
-    private int alike(Recipe r, int slip, int seed, boolean asTheFirst) {
-        trial.takeHand(slip, seed);
-        int alike = 0;
-        if (asTheFirst) {
-            trial.carryOut(now, r, NONE);
-            model.copyFrom(trial);
-            alike = 1;
-        } else {
-            model.carryOut(now, r, NONE);
-        }
-        for (int i = alike; i < MADE_ALIKE; i++) {
-            trial.carryOut(now, r, NONE);
-            alike += trial.isLike(model) ? 1 : 0;
-        }
-        trial.takeHand(NONE, 0);
-        return alike;
-    }
-
-    private int widestApart(Recipe r, int slip, int seed) {
-        int[] irons = new int[MADE_ALIKE * MOST_CELLS];
-        int widest = 0;
+    private void makeTwelve(Recipe r, int slip, int seed) {
         trial.takeHand(slip, seed);
         for (int i = 0; i < MADE_ALIKE; i++) {
             trial.carryOut(now, r, NONE);
-            System.arraycopy(trial.iron, 0, irons, i * MOST_CELLS, MOST_CELLS);
-            for (int j = 0; j < i; j++) {
-                int apart = 0;
-                for (int cell = 0; cell < now.cells && cell < MOST_CELLS; cell++) {
-                    apart += Math.abs(trial.iron[cell] - irons[j * MOST_CELLS + cell]);
-                }
-                widest = Math.max(widest, apart);
-            }
+            System.arraycopy(trial.iron, 0, twelveIron, i * MOST_CELLS, MOST_CELLS);
         }
         trial.takeHand(NONE, 0);
+    }
+
+    /** How many of the TWELVE have the IRON of the row that stands first in rows; nothing but IRON counts. */
+    private int manyAs(int[] rows) {
+        int many = 0;
+        for (int i = 0; i < MADE_ALIKE; i++) {
+            many += ironApart(i, rows, 0) == 0 ? 1 : 0;
+        }
+        return many;
+    }
+
+    private int widestApart() {
+        int widest = 0;
+        for (int i = 0; i < MADE_ALIKE; i++) {
+            for (int j = 0; j < i; j++) {
+                widest = Math.max(widest, ironApart(i, twelveIron, j));
+            }
+        }
         return widest;
+    }
+
+    private int ironApart(int i, int[] rows, int j) {
+        int mine = i * MOST_CELLS;
+        int other = j * MOST_CELLS;
+        if (mine < 0 || mine + MOST_CELLS > twelveIron.length || other < 0 || other + MOST_CELLS > rows.length) {
+            return 0;
+        }
+        int apart = 0;
+        for (int cell = 0; cell < now.cells && cell < MOST_CELLS; cell++) {
+            apart += Math.abs(twelveIron[mine + cell] - rows[other + cell]);
+        }
+        return apart;
     }
 
     /** All that IMAGES keep. */
@@ -905,12 +915,6 @@ public final class HotIron {
             }
             return told == number && outcome[HOLES] == holes && outcome[FOLDS] == folds
                     && outcome[DROPPED] == NONE;
-        }
-
-        void copyFrom(Run other) {
-            cells = other.cells;
-            System.arraycopy(other.iron, 0, iron, 0, MOST_CELLS);
-            System.arraycopy(other.outcome, 0, outcome, 0, OUTCOMES);
         }
 
         long chance(boolean upper) {

@@ -14,9 +14,13 @@ public final class GateTest {
         HotIron x = new HotIron();
         DUE.is("no minutes", x.piece(0, -1), -1);
         DUE.is("too many minutes", x.piece(201, -1), -1);
-        DUE.is("a need that can't be", x.piece(1, -2), -1);
+        DUE.is("a need below none", x.piece(1, -2), -2);
+        DUE.is("its status", x.status(), -2);
+        DUE.is("a need far below none", x.piece(200, Integer.MIN_VALUE), -2);
+        DUE.is("a need far above", x.piece(200, Integer.MAX_VALUE), -2);
         DUE.is("itself", x.piece(1, 0), -2);
         DUE.is("minutes first", x.piece(0, 5), -1);
+        DUE.is("minutes ahead of a need below none", x.piece(201, -2), -1);
         DUE.is("no pieces", x.count(2), 0);
         DUE.is("piece 0", x.piece(200, -1), 0);
         DUE.is("piece 1", x.piece(1, 0), 1);
@@ -27,10 +31,11 @@ public final class GateTest {
         }
         DUE.is("no room", x.piece(1, -1), -5);
         DUE.is("no such piece ahead of no room", x.piece(1, 8), -2);
+        DUE.is("a need below none ahead of no room", x.piece(1, -2), -2);
         DUE.is("minutes ahead of all", x.piece(0, 8), -1);
         DUE.is("count(2)", x.count(2), 8);
         DUE.is("refused by -1", x.count(5), 5);
-        DUE.is("refused by -2", x.count(6), 4);
+        DUE.is("refused by -2", x.count(6), 8);
         DUE.is("refused by -5", x.count(8), 1);
         DUE.is("all in a row", x.soonest(3, -1), 200 + 1 + 2 + 3 + 4 + 5 + 6 + 7);
         DUE.is("the last begins", x.soonest(3, 7), 200 + 1 + 2 + 3 + 4 + 5 + 6);

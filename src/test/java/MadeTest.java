@@ -97,18 +97,41 @@ public final class MadeTest {
         slipsByHand(x, 99, 0);
         Due.recipe(x, "fire 0;strike 0 to 1;strike 1 to 0");
         // The second BLOW draws, too, and so the draws of the next ones are other ones.
-        int slipped = 0;
+        int bothOrNone = 0;
+        int bothSlip = 0;
         long s = 12;
         for (int i = 0; i < 12; i++) {
             s = (s * 1103 + 12345) % 1000003;
-            boolean first = s % 100 < 40;
+            boolean first = s % 100 < 60;
             s = (s * 1103 + 12345) % 1000003;
-            boolean second = s % 100 < 40;
-            slipped += first || second ? 1 : 0;
+            boolean second = s % 100 < 60;
+            bothOrNone += first == second ? 1 : 0;
+            bothSlip += first && second ? 1 : 0;
         }
-        DUE.is("with a fold or another iron", x.twelve(1, 40, 12, 2), 12 - slipped);
+        DUE.is("some have the iron without the fold", bothSlip > 0 && bothSlip < bothOrNone ? 1 : 0, 1);
+        DUE.is("as without by iron alone", x.twelve(1, 60, 12, 2), bothOrNone);
         Due.recipe(x, "fire 0;fire 0;strike 0 to 1");
         DUE.is("a dud draws nothing, and is as without", x.twelve(2, 100, 5, 2), 12);
+        ironAlone();
+    }
+
+    /** A hand that slips leads to other HEATS, FOLDS, HOLES, WELDS, SHOULDERS, CRACKS, but to the same IRON. */
+    private static void ironAlone() {
+        HotIron x = new HotIron();
+        x.terms(0, 4);
+        x.bar(0, 1);
+        String first = "fire 1;strike 1 to 2;fire 2 if iron(1)=1;fire 1 if iron(1)=2;";
+        String[] rest = {"go 15", "punch 0;punch 0", "weld 0", "shoulder 0", "weld 0;shoulder 0;punch 0;punch 0"};
+        for (String steps : rest) {
+            x.image(0);
+            Due.recipe(x, first + steps);
+            for (int seed = 0; seed < 12; seed++) {
+                DUE.is("as the first, " + steps, x.twelve(0, 50, seed, 0), 12);
+                DUE.is("apart, " + steps, x.twelve(0, 50, seed, 1), 0);
+                DUE.is("as without, " + steps, x.twelve(0, 50, seed, 2), 12);
+            }
+            x.back(0);
+        }
     }
 
     /** One MOVE each: the draws tell at once how many slip. */

@@ -659,11 +659,11 @@ final class Smith {
             round.draw = draw;
             rounds.add(round.go(recipes.get(recipe).split(";")));
         }
-        String like = what == 0 ? rounds.get(0).look() : run(recipe).look();
+        String like = what == 0 ? rounds.get(0).row() : run(recipe).row();
         int alike = 0;
         int apart = 0;
         for (Round a : rounds) {
-            alike += a.look().equals(like) ? 1 : 0;
+            alike += a.row().equals(like) ? 1 : 0;
             for (Round b : rounds) {
                 int far = 0;
                 for (int c = 0; c < cells; c++) {

@@ -86,10 +86,34 @@ public final class TapeTest {
         DUE.is("count(1)", x.count(1), 8);
         DUE.is("no room for a ninth", Due.recipe(x, "fire"), -5);
         DUE.is("it was not read", x.fault(), -1);
-        DUE.is("so its text stays", x.count(4), 4);
-        DUE.is("refused by -5", x.count(8), 1);
+        DUE.is("the tape is empty then, too", x.count(4), 0);
+        DUE.is("feed begins anew", x.feed(0, 0, 0, 0, 0), 20);
+        DUE.is("no room, whatever the text", x.recipe(), -5);
+        DUE.is("end of an empty tape", x.end(1), -1);
+        DUE.is("no room, an empty tape", x.recipe(), -5);
+        DUE.is("its status", x.status(), -5);
+        DUE.is("refused by -5", x.count(8), 3);
         DUE.is("refused by -6", x.count(9), 2);
         DUE.is("count(1) stays", x.count(1), 8);
+        faultBehindNoRoom();
+    }
+
+    /** What is not read leaves FAULT as it was. */
+    private static void faultBehindNoRoom() {
+        HotIron x = new HotIron();
+        for (int k = 0; k < 7; k++) {
+            Due.recipe(x, "fire 0");
+        }
+        x.image(0);
+        Due.recipe(x, "fire 0");
+        x.image(1);
+        x.back(0);
+        DUE.is("a fault with room", Due.fault(x, "fire ?"), 5);
+        x.back(1);
+        DUE.is("no room", Due.recipe(x, "fire 0"), -5);
+        DUE.is("the fault stays", x.fault(), 5);
+        DUE.is("no room for a row's ints either", Due.recipe(x, "????????"), -5);
+        DUE.is("none of them is left for a row", x.row(), -6);
     }
 
     private static void faults() {

@@ -65,9 +65,9 @@ public final class AgainstSmithTest {
         setUp(x, smith);
         int many = draw(random, 1, 8);
         for (int k = 0; k < many; k++) {
-            String text = text(random, smith.cells);
+            String text = Texts.text(random, smith.cells);
             while (Smith.fault(text) >= 0) {
-                text = text(random, smith.cells);
+                text = Texts.text(random, smith.cells);
             }
             smith.recipes.add(text);
             DUE.is("recipe " + text, Due.recipe(x, text), k);
@@ -114,25 +114,13 @@ public final class AgainstSmithTest {
         }
     }
 
-    private static String text(Random random, int cells) {
-        StringBuilder text = new StringBuilder("fire " + random.nextInt(cells));
-        int steps = draw(random, 0, 13);
-        for (int i = 0; i < steps && text.length() < 200; i++) {
-            text.append(random.nextInt(4) == 0 ? " ; " : ";").append(step(random, cells));
-            if (random.nextInt(4) == 0) {
-                text.append(" if ").append(test(random, 2));
-            }
-        }
-        return text.toString();
-    }
-
     /** A text with some tokens taken out, put in or exchanged. */
     private static void faults(Random random) {
         String[] tokens = {"fire", "strike", "to", "go", "if", "and", "or", "not", "(", ")", "[", "]", "<", "=", "+", "-", ";",
             "1", "15", "16", "99", "100", "007", "iron", "hot", "cells", "left", "weld", "?", "A", " ", "", "punch 1;", "1+"};
         HotIron x = new HotIron();
         x.image(0);
-        StringBuilder text = new StringBuilder(text(random, 4));
+        StringBuilder text = new StringBuilder(Texts.text(random, 4));
         for (int turn = 0; turn < 6; turn++) {
             String now = text.length() > 400 ? text.substring(0, 400) : text.toString();
             Due.write(x, now);
@@ -145,55 +133,6 @@ public final class AgainstSmithTest {
             int to = random.nextBoolean() ? at : Math.min(text.length(), at + 1);
             text.replace(at, to, random.nextBoolean() ? token : " " + token + " ");
         }
-    }
-
-    private static String step(Random random, int cells) {
-        int cell = random.nextInt(cells);
-        switch (random.nextInt(12)) {
-            case 0:
-            case 1:
-                return "fire " + (random.nextInt(8) == 0 ? sum(random, 1) : "" + cell);
-            case 2:
-                return "shoulder " + cell;
-            case 3:
-            case 4:
-                return "punch " + cell;
-            case 5:
-            case 6:
-                return "weld " + cell;
-            case 7:
-                return "go " + random.nextInt(16);
-            case 8:
-                return "strike " + sum(random, 1) + " to " + sum(random, 1);
-            default:
-                int other = random.nextBoolean() ? cell + 1 : Math.max(0, cell - 1);
-                return "strike " + cell + " to " + other;
-        }
-    }
-
-    private static String test(Random random, int depth) {
-        int kind = random.nextInt(depth > 0 ? 6 : 3);
-        switch (kind) {
-            case 3:
-                return "not " + (random.nextBoolean() ? "not (" : "(") + test(random, depth - 1) + ")";
-            case 4:
-                return test(random, depth - 1) + " and " + test(random, depth - 1);
-            case 5:
-                return test(random, depth - 1) + " or " + test(random, depth - 1);
-            default:
-                return sum(random, 1) + "<=>".charAt(kind) + sum(random, 1);
-        }
-    }
-
-    private static String sum(Random random, int depth) {
-        String[] plain = {"cells", "left", "heats", "struck", "0", "1", "2", "3"};
-        String part = plain[random.nextInt(plain.length)];
-        if (depth > 0) {
-            int kind = random.nextInt(6);
-            part = kind == 0 ? "iron(" + sum(random, depth - 1) + ")" : kind == 1 ? "hot(" + sum(random, depth - 1) + ")"
-                    : kind == 2 ? "[" + sum(random, depth - 1) + "-" + sum(random, depth - 1) + "]" : part;
-        }
-        return random.nextInt(4) > 0 ? part : part + (random.nextBoolean() ? "+" : "-") + random.nextInt(3);
     }
 
     private static void plans(Random random, int cells, int mostReached) {

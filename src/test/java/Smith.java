@@ -20,7 +20,21 @@ final class Smith {
     int[] terms = {3, 3, 5, 1, 20};
     List<String> recipes = new ArrayList<>();
     List<int[]> pieces = new ArrayList<>();
-    private final Map<String, TreeSet<String>> known = new HashMap<>();
+    /** Holds for every Smith, so copies share it. */
+    private Map<String, TreeSet<String>> known = new HashMap<>();
+
+    Smith copy() {
+        Smith other = new Smith();
+        other.cells = cells;
+        other.bar = bar;
+        other.shape = shape;
+        other.tongs = tongs;
+        other.terms = terms.clone();
+        other.recipes.addAll(recipes);
+        other.pieces.addAll(pieces);
+        other.known = known;
+        return other;
+    }
 
     static boolean beside(int a, int b) {
         return Math.abs(a - b) == 1;
@@ -628,7 +642,7 @@ final class Smith {
 
     int change(int recipe, int i) {
         String[] steps = recipes.get(recipe).split(";");
-        if (i < 0 || i + 1 >= steps.length) {
+        if (i < 0 || i >= steps.length - 1) {
             return -1;
         }
         String look = new Round().go(steps.clone()).look();

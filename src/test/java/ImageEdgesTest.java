@@ -16,6 +16,7 @@ public final class ImageEdgesTest {
         imagesStay();
         imageAnew();
         imagesApart();
+        imagesOfGates();
         roomAgain();
         countNumbers();
         countOfWhatStands();
@@ -24,6 +25,7 @@ public final class ImageEdgesTest {
         neverByThree();
         statusOfEach();
         statusOfOthers();
+        fiveHundredAndTwelveCalls();
         DUE.close();
     }
 
@@ -154,6 +156,24 @@ public final class ImageEdgesTest {
         x.image(0);
         x.back(0);
         DUE.is("IMAGE 0 anew", x.count(0), 5);
+    }
+
+    /** Of each PIECE its MINUTES and its NEED are kept. */
+    private static void imagesOfGates() {
+        HotIron x = new HotIron();
+        x.image(0);
+        x.piece(10, -1);
+        x.piece(5, 0);
+        x.image(1);
+        x.back(0);
+        x.piece(20, -1);
+        x.piece(6, -1);
+        x.image(0);
+        DUE.is("20 and 6 at once", x.soonest(2, -1) * 100 + x.soonest(2, 1), 2000);
+        x.back(1);
+        DUE.is("10, then 5", x.soonest(2, -1) * 100 + x.soonest(2, 1), 1510);
+        x.back(0);
+        DUE.is("20 and 6 at once again", x.soonest(2, -1) * 100 + x.soonest(2, 1), 2000);
     }
 
     /** BACK to fewer RECIPES and PIECES there is room again, and numbers come again. */
@@ -331,5 +351,30 @@ public final class ImageEdgesTest {
         leaves("striker", x -> x.striker());
         leaves("count", x -> x.count(0) + x.count(99));
         leaves("status", x -> x.status());
+    }
+
+    /** "An object is used for at most 512 calls": the last of them is answered as the first; none behind it throws. */
+    private static void fiveHundredAndTwelveCalls() {
+        HotIron x = new HotIron();
+        for (int i = 0; i < 510; i++) {
+            x.wide(i % 2 == 0 ? 2 : 6);
+        }
+        DUE.is("call 511", x.count(5), 510);
+        DUE.is("call 512", x.status(), -1);
+        HotIron y = new HotIron();
+        for (int i = 0; i < 508; i++) {
+            y.bar(i % 4, 1 + i % 9);
+        }
+        DUE.is("calls 509 to 512", y.bar(0, 1) * 1000 + y.bar(1, 1) * 100 + y.bar(2, 1) * 10 + y.bar(3, 1),
+                (1 + 504 % 9) * 1000 + (1 + 505 % 9) * 100 + (1 + 506 % 9) * 10 + 1 + 507 % 9);
+        for (int i = 0; i < 5000; i++) {
+            y.image(i % 2);
+            y.feed(i, i, i, i, i);
+            y.recipe();
+            y.row();
+            y.piece(1, -1);
+            y.back(1 - i % 2);
+        }
+        DUE.is("an object that is used for longer answers still", y.count(99), -1);
     }
 }

@@ -20,6 +20,7 @@ public final class MadeEdgesTest {
         twelveNumbers();
         twelveEnds();
         twelveByDraws();
+        twelveAtTheWrap();
         twelveDrawsAheadOfMovesAlone();
         twelveSlipUsesTheBlow();
         twelveApart();
@@ -272,6 +273,26 @@ public final class MadeEdgesTest {
         HotIron x = with(3, "fire 0;strike 0 to 1", 3, 3, 3, 3);
         DUE.is("45 is not below 45", x.twelve(0, 45, 0, 0), x.twelve(0, 45, 0, 2));
         DUE.is("45 is below 46", x.twelve(0, 46, 0, 0), 12 - x.twelve(0, 46, 0, 2));
+    }
+
+    /** "modulo 1,000,003": SEEDS from which the first s is the least, the most, and just about a hundred. */
+    private static void twelveAtTheWrap() {
+        int[] firsts = {0, 1, 99, 100, 101, 999999, 1000000, 1000001, 1000002};
+        for (int first : firsts) {
+            int seed = 0;
+            while ((seed * 1103L + 12345) % 1000003 != first) {
+                seed++;
+            }
+            // Of 0 .. 1,000,002 two lead to where no SEED is.
+            if (seed <= 1000000) {
+                HotIron x = with(3, "fire 0;strike 0 to 1", 3, 3, 3, 3);
+                int draw = first % 100;
+                check(x, draw, seed, 1);
+                check(x, Math.min(100, draw + 1), seed, 1);
+                check(x, 0, seed, 1);
+                check(x, 100, seed, 1);
+            }
+        }
     }
 
     /** "ahead of each MOVE": DUDS and COLD ones draw nothing. */

@@ -20,6 +20,7 @@ public final class PlanEdgesTest {
         planOfWhatStands();
         firstCellsThenRows();
         reachedNumbers();
+        reachedOfEach();
         reachedWithout();
         evenEnds();
         evenBySixHeats();
@@ -283,6 +284,26 @@ public final class PlanEdgesTest {
         // 1 1 2, 1 2 1, 2 1 1, 1 1 1.
         DUE.is("reached(2)", x.reached(2), 4);
         DUE.is("reached(6)", x.reached(6), 4);
+    }
+
+    /** Of each number of HEATS, held against the plain Smith. */
+    private static void reachedOfEach() {
+        String[] bars = {"113", "999", "191", "345", "2222", "1913"};
+        for (String bar : bars) {
+            Smith smith = new Smith();
+            smith.cells = bar.length();
+            smith.bar = bar;
+            smith.terms[0] = 1;
+            HotIron x = new HotIron();
+            x.wide(bar.length());
+            x.terms(0, 1);
+            for (int cell = 0; cell < bar.length(); cell++) {
+                x.bar(cell, bar.charAt(cell) - '0');
+            }
+            for (int heats = 6; heats >= 0; heats--) {
+                DUE.is("reached(" + heats + ") of " + bar, x.reached(heats), smith.reached(heats));
+            }
+        }
     }
 
     /** Just so many, not at most so many; none where no HEAT can be done. */

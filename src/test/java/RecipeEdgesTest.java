@@ -28,6 +28,8 @@ public final class RecipeEdgesTest {
         faultAtTheEnd();
         faultInTests();
         faultInSums();
+        fourHundredTokens();
+        eachTextAnew();
         DUE.close();
     }
 
@@ -440,5 +442,42 @@ public final class RecipeEdgesTest {
         fault("fire fire", 5);
         fault("fire not 1", 5);
         right("fire [1+[2-3]]-iron(1+[heats])+hot(iron(struck-left))");
+    }
+
+    /** A TEXT may be as many TOKENS as bytes. */
+    private static void fourHundredTokens() {
+        fault("?".repeat(400), 0);
+        fault(";".repeat(400), 0);
+        fault("(".repeat(400), 0);
+        fault("fire" + "[".repeat(396), 12);
+        fault("fire 1" + ";".repeat(394), 7);
+        fault("fire 1" + "+".repeat(394), 7);
+        fault("fire 1 if" + "(".repeat(391), 17);
+        fault("fire 1" + "+1".repeat(197), 6 + 2 * 59 + 1);
+        fault("fire" + "0".repeat(395) + "?", 399);
+        right("fire 1 if " + "not ".repeat(96) + "1=1");
+        right("fire 1 if " + "not(".repeat(8) + "not ".repeat(85) + "1=1" + ")".repeat(8));
+    }
+
+    /** What was counted in a TEXT with a FAULT does not count in the next one. */
+    private static void eachTextAnew() {
+        String sixty = "fire 1" + "+1".repeat(59);
+        String sixteen = "go 0" + ";go 0".repeat(15);
+        String eight = "fire [[[[[[[[1]]]]]]]]";
+        HotIron x = new HotIron();
+        DUE.is("eight brackets open", Due.fault(x, "fire [[[[[[[[1"), 14);
+        DUE.is("eight again", Due.recipe(x, eight), 0);
+        DUE.is("sixty-one PARTS", Due.fault(x, sixty + "+1"), sixty.length() + 1);
+        DUE.is("sixty", Due.recipe(x, sixty), 1);
+        DUE.is("seventeen STEPS", Due.fault(x, sixteen + ";go 0"), sixteen.length() + 1);
+        DUE.is("sixteen", Due.recipe(x, sixteen), 2);
+        DUE.is("steps(2)", x.steps(2), 16);
+        DUE.is("one", Due.recipe(x, "fire 0"), 3);
+        DUE.is("steps(3)", x.steps(3), 1);
+        DUE.is("sixty again", Due.recipe(x, sixty), 4);
+        DUE.is("eight again", Due.recipe(x, eight), 5);
+        DUE.is("run(3)", x.run(3), 1);
+        DUE.is("HEATS", x.came(0), 1);
+        DUE.is("run(2)", x.run(2), 100);
     }
 }

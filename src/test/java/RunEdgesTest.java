@@ -18,6 +18,9 @@ public final class RunEdgesTest {
         partsOfCells();
         partsAtFirst();
         partsCount();
+        comparisons();
+        joinedTests();
+        sums();
         beginsAnew();
         passedOver();
         dropped();
@@ -32,6 +35,7 @@ public final class RunEdgesTest {
         dudsByCells();
         dudsUseNothing();
         dudAheadOfCold();
+        bitsOfEachCell();
         costs();
         DUE.close();
     }
@@ -192,6 +196,69 @@ public final class RunEdgesTest {
         DUE.is("not gone by a HEAT", ran("fire 0;punch 0;fire 0;fire 99 if struck=1 and left=3").came(3), 1);
     }
 
+    private static void is(String test, boolean due) {
+        DUE.is(test, ran("fire 99 if " + test).came(3), due ? 1 : 0);
+    }
+
+    /** "<", ">", "=" of numbers that are one apart and of such that are not. */
+    private static void comparisons() {
+        int[] numbers = {0, 1, 2, 98, 99};
+        for (int a : numbers) {
+            for (int b : numbers) {
+                is(a + "<" + b, a < b);
+                is(a + ">" + b, a > b);
+                is(a + "=" + b, a == b);
+                is("0-" + a + "<0-" + b, -a < -b);
+                is("0-" + a + ">0-" + b, -a > -b);
+                is("0-" + a + "=0-" + b, -a == -b);
+            }
+        }
+    }
+
+    /** "and" binds more than "or", "not" more than both; any number of each. */
+    private static void joinedTests() {
+        for (int bits = 0; bits < 8; bits++) {
+            boolean a = (bits & 1) != 0;
+            boolean b = (bits & 2) != 0;
+            boolean c = (bits & 4) != 0;
+            String p = a ? "1=1" : "1=2";
+            String q = b ? "2>1" : "1>1";
+            String r = c ? "1<2" : "2<2";
+            is(p + " or " + q + " and " + r, a || b && c);
+            is(p + " and " + q + " or " + r, a && b || c);
+            is("(" + p + " or " + q + ") and " + r, (a || b) && c);
+            is(p + " and (" + q + " or " + r + ")", a && (b || c));
+            is(p + " or " + q + " or " + r, a || b || c);
+            is(p + " and " + q + " and " + r, a && b && c);
+            is("not " + p + " and " + q + " or not " + r, !a && b || !c);
+            is("not " + p + " or " + q + " and not " + r, !a || b && !c);
+            is("not (" + p + " or " + q + ") and " + r, !(a || b) && c);
+            is("not (" + p + " and not (" + q + " or not " + r + "))", !(a && !(b || !c)));
+            is("not not " + p + " and not not not " + q, a && !b);
+            is("((((" + p + ")))) or ((" + q + ") and ((" + r + ")))", a || b && c);
+        }
+        is("not ".repeat(90) + "1=1", true);
+        is("not ".repeat(91) + "1=1", false);
+        is("1=2 or ".repeat(28) + "1=1", true);
+        is("1=1 and ".repeat(28) + "1=2", false);
+    }
+
+    /** From the left on; "[" SUM "]" ahead; as far as 60 PARTS of 99 and eight brackets go. */
+    private static void sums() {
+        is("9-5-3=1", true);
+        is("9-[5-3]=7", true);
+        is("9-5+3=7", true);
+        is("9-[5+3]=1", true);
+        is("1-[2-[3-[4-[5-[6-[7-[8-[9]]]]]]]]=5", true);
+        is("[[[[[[[[9]-8]-7]-6]-5]-4]-3]-2]=0-26", true);
+        is("99" + "+99".repeat(57) + ">99", true);
+        is("0" + "-99".repeat(56) + "<0-99", true);
+        is("99" + "+99".repeat(28) + "=99" + "+99".repeat(28), true);
+        is("iron(iron(iron(0)+hot(0)-3)-3)=3", true);
+        HotIron x = ran("fire [[1]-[1]];strike [2-[1-[0]]]-1 to iron(0)-[0+1] if [1-[1]]=heats-1");
+        DUE.is("a BLOW from 0 to 1", Due.irons(x, 4), 1433);
+    }
+
     /** "goes from the BAR on": nothing of another RUN is left. */
     private static void beginsAnew() {
         HotIron x = ran("punch 0;fire 0;punch 0;shoulder 0;weld 0;go 6;fire 0;strike 2 to 1");
@@ -206,6 +273,13 @@ public final class RunEdgesTest {
         Due.recipe(x, "punch 0");
         x.run(2);
         came(x, "nothing HOT", 0, 0, 0, 0, 1, 0, -1, 0, 0, 0, 0, 1);
+        Due.recipe(x, "fire 9 if left=0;fire 9 if hot(0)+hot(1)=0;fire 9 if heats+struck=0;fire 9 if iron(0)=3");
+        x.run(0);
+        x.run(3);
+        came(x, "no BLOW left, nothing HOT, no HEATS, no BLOWS, the BAR's IRON", 0, 0, 0, 4);
+        x.run(1);
+        x.run(3);
+        came(x, "behind another RUN", 0, 0, 0, 4);
     }
 
     /** "one whose "if" is not so is passed over", and counts among those gone through. */
@@ -429,6 +503,34 @@ public final class RunEdgesTest {
     private static void dudAheadOfCold() {
         HotIron x = ran("punch 4;shoulder 3;weld 3;strike 3 to 4;strike 0 to 2");
         came(x, "DUDS", 0, 0, 0, 5, 0, 0, -1, 0, 0, 0, 0, 0);
+    }
+
+    /** "7 SHOULDERS (bit k: behind CELL k), 8 HOLES, 9 WELDS (as SHOULDERS), 10 FOLDS, 11 CRACKS, as bits". */
+    private static void bitsOfEachCell() {
+        for (int n = 3; n <= 5; n++) {
+            for (int cell = 0; cell < n; cell++) {
+                int bit = 1 << cell;
+                // At the middle of three CELLS no HEAT can be done.
+                String fire = "fire " + (n == 3 && cell == 1 ? 0 : cell);
+                int from = cell == n - 1 ? cell - 1 : cell + 1;
+                int[] low = bar(n);
+                low[from] = 2;
+                HotIron hole = ran(4, fire + ";punch " + cell + ";punch " + cell, bar(n));
+                came(hole, "HOLE of " + cell, 1, 2, 0, 0, 0, 2, -1, 0, bit, 0, 0, 0);
+                HotIron fold = ran(4, fire + ";strike " + from + " to " + cell, low);
+                came(fold, "FOLD of " + cell, 1, 1, 1, 0, 0, 1, -1, 0, 0, 0, bit, 0);
+                HotIron crack = ran(4, "punch " + cell, bar(n));
+                came(crack, "CRACK of " + cell, 0, 0, 0, 0, 1, 0, -1, 0, 0, 0, 0, bit);
+            }
+            for (int cell = 0; cell < n - 1; cell++) {
+                int bit = 1 << cell;
+                String fire = "fire " + (n == 3 ? 2 * cell : cell);
+                HotIron shoulder = ran(4, fire + ";shoulder " + cell, bar(n));
+                came(shoulder, "SHOULDER of " + cell, 1, 1, 0, 0, 0, 1, -1, bit, 0, 0, 0, 0);
+                HotIron weld = ran(4, fire + ";weld " + cell, bar(n));
+                came(weld, "WELD of " + cell, 1, 1, 0, 0, 0, 1, -1, 0, 0, bit, 0, 0);
+            }
+        }
     }
 
     /** "COAL and HEATING minutes for each HEAT, STRIKING minutes for each BLOW that is not COLD". */

@@ -10,6 +10,7 @@ public final class PlanEdgesTest {
         sixHeatsAndSeven();
         moreIron();
         scaleAtOne();
+        scaleOfEachRow();
         blowsOfAHeat();
         noMoveFromOneOrToNine();
         nothingHeld();
@@ -21,6 +22,7 @@ public final class PlanEdgesTest {
         firstCellsThenRows();
         reachedNumbers();
         reachedOfEach();
+        reachedOfLeastAndMost();
         reachedWithout();
         evenEnds();
         evenBySixHeats();
@@ -107,6 +109,35 @@ public final class PlanEdgesTest {
         }
         DUE.is("two lose one", of(1, row(2, 1, 1), row(1, 1, 1)).heats(), 1);
         DUE.is("one does not come down to none", of(1, row(2, 2, 2), row(1, 1, 1)).heats(), 3);
+    }
+
+    /** From every row of three CELLS, and from some of four and five, one HEAT leads to the row with one IRON less at its CELL. */
+    private static void scaleOfEachRow() {
+        int[] strides = {1, 7, 67};
+        for (int n = 3; n <= 5; n++) {
+            for (int number = 0; number < Math.pow(9, n); number += strides[n - 3]) {
+                int[] bar = new int[n];
+                int rest = number;
+                for (int cell = 0; cell < n; cell++) {
+                    bar[cell] = 1 + rest % 9;
+                    rest /= 9;
+                }
+                lessAtACell(bar);
+            }
+        }
+    }
+
+    private static void lessAtACell(int[] bar) {
+        HotIron x = of(1, bar, bar);
+        for (int cell = 0; cell < bar.length; cell++) {
+            // At the middle of three CELLS no HEAT can be done.
+            boolean middle = bar.length == 3 && cell == 1;
+            if (bar[cell] > 1 && !middle) {
+                x.shape(cell, bar[cell] - 1);
+                DUE.is("heats() of " + Look.row(bar.length, c -> bar[c]) + "for CELL " + cell, x.heats(), 1);
+                x.shape(cell, bar[cell]);
+            }
+        }
     }
 
     /** "at most BLOWS MOVES in each": as many as there are, and none more. */
@@ -286,22 +317,60 @@ public final class PlanEdgesTest {
         DUE.is("reached(6)", x.reached(6), 4);
     }
 
+    /** A BAR told by its digits, for the plain Smith and for the object. */
+    private static HotIron alike(Smith smith, String bar, int blows) {
+        smith.cells = bar.length();
+        smith.bar = bar;
+        smith.terms[0] = blows;
+        HotIron x = new HotIron();
+        x.wide(bar.length());
+        x.terms(0, blows);
+        for (int cell = 0; cell < bar.length(); cell++) {
+            x.bar(cell, bar.charAt(cell) - '0');
+        }
+        return x;
+    }
+
     /** Of each number of HEATS, held against the plain Smith. */
     private static void reachedOfEach() {
         String[] bars = {"113", "999", "191", "345", "2222", "1913"};
         for (String bar : bars) {
             Smith smith = new Smith();
-            smith.cells = bar.length();
-            smith.bar = bar;
-            smith.terms[0] = 1;
-            HotIron x = new HotIron();
-            x.wide(bar.length());
-            x.terms(0, 1);
-            for (int cell = 0; cell < bar.length(); cell++) {
-                x.bar(cell, bar.charAt(cell) - '0');
-            }
+            HotIron x = alike(smith, bar, 1);
             for (int heats = 6; heats >= 0; heats--) {
                 DUE.is("reached(" + heats + ") of " + bar, x.reached(heats), smith.reached(heats));
+            }
+        }
+    }
+
+    /** Rows of the least and of the most IRON there is, for each n: what they lead to, and a PLAN to each row behind a HEAT. */
+    private static void reachedOfLeastAndMost() {
+        for (int n = 3; n <= 5; n++) {
+            for (int bits = 0; bits < 1 << n; bits++) {
+                StringBuilder low = new StringBuilder();
+                StringBuilder high = new StringBuilder();
+                for (int cell = 0; cell < n; cell++) {
+                    low.append(1 + (bits >> cell & 1));
+                    high.append(8 + (bits >> cell & 1));
+                }
+                leads(low.toString());
+                leads(high.toString());
+            }
+        }
+    }
+
+    private static void leads(String bar) {
+        Smith smith = new Smith();
+        HotIron x = alike(smith, bar, 2);
+        DUE.is("reached(1) of " + bar, x.reached(1), smith.reached(1));
+        DUE.is("reached(2) of " + bar, x.reached(2), smith.reached(2));
+        for (int p = 0; p < bar.length(); p++) {
+            for (String row : smith.behindHeat(bar, p, 2)) {
+                HotIron y = alike(smith, bar, 2);
+                for (int cell = 0; cell < row.length(); cell++) {
+                    y.shape(cell, row.charAt(cell) - '0');
+                }
+                DUE.is("heats() of " + bar + " to " + row, y.heats(), row.equals(bar) ? 0 : 1);
             }
         }
     }

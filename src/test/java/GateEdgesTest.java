@@ -1,3 +1,5 @@
+import java.util.Random;
+
 /** The edges that Terms V (a GATE) and promises 24 and 25 name: piece, soonest. */
 public final class GateEdgesTest {
     private static final Due DUE = new Due("GateEdgesTest");
@@ -17,6 +19,8 @@ public final class GateEdgesTest {
         moreFiresThanPieces();
         fireThatIsFreeFirst();
         notAheadOfItsNeed();
+        eachBehindItsNeed();
+        drawnGates();
         firstOfRowsAlike();
         soonestOfWhatStands();
         eightInARow();
@@ -162,6 +166,35 @@ public final class GateEdgesTest {
         soonest("two that need one", gate(10, -1, 5, 0, 5, 0), 2, 15, 0, 10, 10);
         // 0 1 2 would end at 27: PIECE 1 holds the free FIRE from 0 on, so PIECE 2 goes ahead of it.
         soonest("a FIRE that would wait", gate(10, -1, 5, 0, 12, -1), 2, 15, 0, 10, 0);
+    }
+
+    /** "by a row of all PIECES (each behind its NEED)": a row with one ahead of it would be done as soon, but is none. */
+    private static void eachBehindItsNeed() {
+        // 2, 3, 4 need 22 one behind the other. By 0 1 and by 0 2 1 they wait for a FIRE; 0 2 3 1 4 is the first without.
+        soonest("five on two", gate(10, -1, 4, -1, 9, -1, 5, 2, 8, 3), 2, 22, 0, 10, 0, 9, 14);
+        // 2, 3, 5 need 28: 0 2 3 1 4 5 is the first row by which they do not wait.
+        soonest("six on two", gate(12, -1, 4, 0, 11, -1, 8, 2, 12, -1, 9, 3), 2, 28, 0, 12, 0, 11, 16, 19);
+        soonest("the same on three", gate(10, -1, 4, -1, 9, -1, 5, 2, 8, 3), 3, 22, 0, 0, 0, 9, 14);
+    }
+
+    /** Gates with many NEEDS, against all rows there are, and one behind the other on one object. */
+    private static void drawnGates() {
+        for (int seed = 0; seed < 300; seed++) {
+            Random random = new Random(seed);
+            HotIron x = new HotIron();
+            Smith smith = new Smith();
+            int many = 3 + random.nextInt(seed % 10 == 0 ? 5 : 4);
+            int most = seed % 3 == 0 ? 4 : seed % 3 == 1 ? 12 : 60;
+            for (int i = 0; i < many; i++) {
+                int minutes = 1 + random.nextInt(most);
+                int need = random.nextBoolean() ? -1 : random.nextInt(i + 1) - 1;
+                smith.pieces.add(new int[] {minutes, need});
+                x.piece(minutes, need);
+            }
+            for (int fires = 1; fires <= 3; fires++) {
+                soonest("gate " + seed, x, fires, smith.soonest(fires));
+            }
+        }
     }
 
     /** "of alike ones the first as rows". */

@@ -7,11 +7,20 @@ public final class RoomTest {
     private static final int[] ODD = {Integer.MIN_VALUE, Integer.MAX_VALUE, -1000, -2, -1, 0, 1, 2, 3, 4, 5, 6, 7, 8, 9, 10, 15,
         16, 31, 32, 63, 64, 100, 101, 200, 201, 400, 1022, 3333, 99999, 1000000, 1000001};
 
+    /** As many kinds of calls as the document's face has. */
+    private static final int CALLS = 29;
+    /** In one room there are some 7.3 million fields and elements: no element is smaller than a byte. */
+    private static final int ROOM_BYTES = 7_300_000;
+
     public static void main(String[] args) {
         for (int seed = 0; seed < 60; seed++) {
             anything(new Random(seed));
         }
         room();
+        for (int kind = 0; kind < CALLS; kind++) {
+            roomOf(kind);
+        }
+        roomOfNew();
         DUE.close();
     }
 
@@ -33,7 +42,11 @@ public final class RoomTest {
     }
 
     private static long call(HotIron x, Random random, int a, int b, int c) {
-        switch (random.nextInt(29)) {
+        return call(x, random.nextInt(CALLS), random, a, b, c);
+    }
+
+    private static long call(HotIron x, int kind, Random random, int a, int b, int c) {
+        switch (kind) {
             case 0: return x.wide(a);
             case 1: return x.bar(a, b);
             case 2: return x.shape(a, b);
@@ -95,5 +108,46 @@ public final class RoomTest {
         }
         made = threads.getThreadAllocatedBytes(self) - before;
         DUE.is("bytes of a run of recipes: " + made, made < 500_000 ? 1 : 0, 1);
+    }
+
+    /** What 512 calls of one kind make, of the three widths one behind the other, each with what makes it dear. */
+    private static void roomOf(int kind) {
+        com.sun.management.ThreadMXBean threads = (com.sun.management.ThreadMXBean) ManagementFactory.getThreadMXBean();
+        long self = Thread.currentThread().getId();
+        Random random = new Random(kind);
+        HotIron x = new HotIron();
+        for (int k = 0; k < 7; k++) {
+            Due.recipe(x, "fire 3;strike 2 to 1;weld 2;punch 3;go 0 if heats<9");
+        }
+        x.image(0);
+        x.image(1);
+        long before = threads.getThreadAllocatedBytes(self);
+        for (int i = 0; i < 512; i++) {
+            if (i % 16 == 0) {
+                x.back(0);
+                x.wide(3 + i / 16 % 3);
+                x.bar(0, 1 + i / 16 % 9);
+            }
+            if (kind == 8) {
+                Due.write(x, "fire 0;go 0;go 0;go 0");
+                x.back(0);
+            }
+            call(x, kind, random, i % 7, i % 3, i % 11);
+        }
+        long made = threads.getThreadAllocatedBytes(self) - before;
+        DUE.is("bytes of 512 calls of kind " + kind + ": " + made, made < ROOM_BYTES / 4 ? 1 : 0, 1);
+    }
+
+    private static void roomOfNew() {
+        com.sun.management.ThreadMXBean threads = (com.sun.management.ThreadMXBean) ManagementFactory.getThreadMXBean();
+        long self = Thread.currentThread().getId();
+        long before = threads.getThreadAllocatedBytes(self);
+        int cells = 0;
+        for (int i = 0; i < 512; i++) {
+            cells += new HotIron().count(0);
+        }
+        long made = threads.getThreadAllocatedBytes(self) - before;
+        DUE.is("CELLS of 512 new objects", cells, 512 * 4);
+        DUE.is("bytes of 512 new objects: " + made, made < ROOM_BYTES ? 1 : 0, 1);
     }
 }
